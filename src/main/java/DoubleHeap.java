@@ -67,25 +67,27 @@ public final class DoubleHeap {
     }
 
     public int law(int l, int n) {
-        if (l < 0 || l >= LAWS || n < 1 || n > LAW_TEXT || n > tape.size) {
+        Law law = lawAt(l);
+        if (law == null || n < 1 || n > LAW_TEXT || n > tape.size) {
             return NONE;
         }
         int answer = lawReader.read(tape, n);
         tape.clear();
         if (answer >= 0) {
-            laws[l].adopt(lawReader.draft);
+            law.adopt(lawReader.draft);
         }
         return answer;
     }
 
     public int game(int g, int n) {
-        if (g < 0 || g >= GAMES || n < 1 || n > GAME_TEXT || n > tape.size) {
+        Tale tale = taleAt(g);
+        if (tale == null || n < 1 || n > GAME_TEXT || n > tape.size) {
             return NONE;
         }
         int answer = draftTale.read(tape, n);
         tape.clear();
         if (answer >= 0) {
-            tales[g].adopt(draftTale);
+            tale.adopt(draftTale);
         }
         return answer;
     }
@@ -318,13 +320,7 @@ public final class DoubleHeap {
         int fitting = 0;
         for (int l = 0; l < LAWS; l++) {
             Law law = readyLaw(l, MOST, 0);
-            boolean fits = law != null;
-            for (int g = 0; g < GAMES && fits; g++) {
-                Tale tale = toldTale(g);
-                fits = tale == null || tale.tally(law, player, Tale.WRONG) == 0
-                        && tale.tally(law, player, Tale.COULD) == tale.tally(law, player, Tale.GOOD);
-            }
-            fitting |= fits ? 1 << l : 0;
+            fitting |= law != null && fits(law, player) ? 1 << l : 0;
         }
         return fitting;
     }
@@ -519,12 +515,15 @@ public final class DoubleHeap {
         return NONE;
     }
 
+    /** The law, told or not; null if there is no such one. */
+    private Law lawAt(int l) {
+        return l >= 0 && l < LAWS ? laws[l] : null;
+    }
+
     /** The law, or null if there is no such one or it is not told. */
     private Law toldLaw(int l) {
-        if (l < 0 || l >= LAWS || laws[l] == null || !laws[l].told) {
-            return null;
-        }
-        return laws[l];
+        Law law = lawAt(l);
+        return law != null && law.told ? law : null;
     }
 
     /** The told law, made ready to say what is good up to a heap; null if one of these is none. */
@@ -537,11 +536,25 @@ public final class DoubleHeap {
         return law;
     }
 
+    private Tale taleAt(int g) {
+        return g >= 0 && g < GAMES ? tales[g] : null;
+    }
+
     private Tale toldTale(int g) {
-        if (g < 0 || g >= GAMES || tales[g] == null || !tales[g].told) {
-            return null;
+        Tale tale = taleAt(g);
+        return tale != null && tale.told ? tale : null;
+    }
+
+    /** Whether a player took by a law all the time, and well where that could be. */
+    private boolean fits(Law law, int player) {
+        for (int g = 0; g < GAMES; g++) {
+            Tale tale = toldTale(g);
+            if (tale != null && (tale.tally(law, player, Tale.WRONG) != 0
+                    || tale.tally(law, player, Tale.COULD) != tale.tally(law, player, Tale.GOOD))) {
+                return false;
+            }
         }
-        return tales[g];
+        return true;
     }
 
     /** Of the good takes the one that is good by the fewest of the other told laws. */
@@ -574,7 +587,10 @@ public final class DoubleHeap {
             return NONE;
         }
         int all = walks.measure(law, kind, heap, last);
-        return what == HOW_MANY ? all : walks.takeOfRow(law, kind, heap, last, what);
+        if (what == HOW_MANY) {
+            return all;
+        }
+        return what < all ? walks.takeOfRow(law, kind, heap, last, what) : NOT_SO_MANY;
     }
 
     private static int wonOrLeast(long good, int what) {
@@ -777,26 +793,35 @@ public final class DoubleHeap {
             refused = false;
             for (int at = start; at >= 0 && at < size && !refused && signs[at] != END; at++) {
                 int sign = signs[at];
-                if (sign == NUMBER) {
-                    push(values[at]);
-                } else if (sign == 'n') {
-                    push(heap);
-                } else if (sign == 't') {
-                    push(last);
-                } else if (sign == 'x') {
-                    push(x);
-                } else if (sign == '!') {
-                    push(1 - pop());
-                } else if (sign == '|' || sign == '&') {
-                    int held = pop();
-                    if (held == (sign == '|' ? 1 : 0)) {
-                        push(held);
-                        // The loop itself goes one step farther.
-                        at = Math.max(at, values[at] - 1);
-                    }
-                } else {
-                    int right = pop();
-                    push(joined(sign, pop(), right));
+                switch (sign) {
+                    case NUMBER:
+                        push(values[at]);
+                        break;
+                    case 'n':
+                        push(heap);
+                        break;
+                    case 't':
+                        push(last);
+                        break;
+                    case 'x':
+                        push(x);
+                        break;
+                    case '!':
+                        push(1 - pop());
+                        break;
+                    case '|':
+                    case '&':
+                        int held = pop();
+                        if (held == (sign == '|' ? 1 : 0)) {
+                            push(held);
+                            // The loop itself goes one step farther.
+                            at = Math.max(at, values[at] - 1);
+                        }
+                        break;
+                    default:
+                        int right = pop();
+                        push(joined(sign, pop(), right));
+                        break;
                 }
             }
             return refused ? 0 : pop();
@@ -858,6 +883,30 @@ public final class DoubleHeap {
 
         /** How many rules the text has, or its fault. */
         private int read(Tape tape, int n) {
+            load(tape, n);
+            // One more than there may be, so that it is found to be too many.
+            for (int i = 0; i <= Rules.MOST_RULES && failed == 0; i++) {
+                int letter = letter();
+                int amount = draft.size;
+                if (letter == 'm') {
+                    expression(0, 0);
+                    draft.step(Rules.END, 0);
+                }
+                int condition = draft.size;
+                expect('(');
+                condition(1, 0);
+                expect(')');
+                draft.step(Rules.END, 0);
+                draft.addRule(letter, amount, condition);
+                if (place >= size) {
+                    break;
+                }
+                expect(';');
+            }
+            return failed != 0 ? failed : draft.count;
+        }
+
+        private void load(Tape tape, int n) {
             size = Math.max(0, Math.min(n, LAW_TEXT));
             for (int i = 0; i < size; i++) {
                 text[i] = tape.at(i);
@@ -865,15 +914,9 @@ public final class DoubleHeap {
             place = 0;
             failed = 0;
             draft.clear();
-            rule();
-            for (int i = 0; i < size && failed == 0 && place < size; i++) {
-                expect(';');
-                rule();
-            }
-            return failed != 0 ? failed : draft.count;
         }
 
-        private void rule() {
+        private int letter() {
             int letter = sign();
             if (letter != 'm' && letter != 'f') {
                 fail(MISPLACED);
@@ -881,17 +924,7 @@ public final class DoubleHeap {
                 fail(NINTH_RULE);
             }
             place++;
-            int amount = draft.size;
-            if (letter == 'm') {
-                expression(0, 0);
-                draft.step(Rules.END, 0);
-            }
-            int condition = draft.size;
-            expect('(');
-            condition(1, 0);
-            expect(')');
-            draft.step(Rules.END, 0);
-            draft.addRule(letter, amount, condition);
+            return letter;
         }
 
         /** Level 0: parts with a | between two; level 1: tests with an & between two. */
@@ -1012,7 +1045,7 @@ public final class DoubleHeap {
 
         private void fail(int number) {
             if (failed == 0) {
-                failed = fault(number, place);
+                failed = -1000 * number - place;
             }
         }
     }
@@ -1024,7 +1057,6 @@ public final class DoubleHeap {
         private final Rules rules = new Rules();
         private boolean told = false;
         private final long[] takes = new long[CELLS];
-        /** Of each heap the takes behind which the other has lost, allowed or not. */
         private final long[] losing = new long[WIDE];
         private int readyHeaps = 0;
 
@@ -1067,9 +1099,14 @@ public final class DoubleHeap {
             return takes[at];
         }
 
+        /** Of a heap that is ready the takes behind which the other has lost, allowed or not. */
+        private long losingFrom(int heap) {
+            return heap >= 0 && heap < readyHeaps && heap < WIDE ? losing[heap] : 0;
+        }
+
         /** Only of heaps that are ready. */
         private long goodAt(int heap, int last) {
-            return heap >= 0 && heap < readyHeaps ? takesAt(heap, last) & losing[heap] : 0;
+            return takesAt(heap, last) & losingFrom(heap);
         }
 
         private long lostNumbers() {
@@ -1327,8 +1364,9 @@ public final class DoubleHeap {
         }
 
         private int measured(Law law, int kind, int heap, int last) {
-            long good = kind == LENGTH ? law.goodAt(heap, last) : 0;
-            long takes = good != 0 ? good : law.takesAt(heap, last);
+            long takes = law.takesAt(heap, last);
+            long good = kind == LENGTH ? takes & law.losingFrom(heap) : 0;
+            takes = good != 0 ? good : takes;
             boolean hurries = good != 0 || kind == SOONEST;
             int best = 0;
             for (int x = 1; x <= heap; x++) {
@@ -1342,12 +1380,9 @@ public final class DoubleHeap {
             return best;
         }
 
-        /** Take k of the least of the soonest rows, of the greatest of the latest ones. */
+        /** Behind a measure: take k of the least of the soonest rows, the greatest of the latest. */
         private int takeOfRow(Law law, int kind, int heap, int last, int k) {
-            int rest = measure(law, kind, heap, last);
-            if (k >= rest) {
-                return NOT_SO_MANY;
-            }
+            int rest = measured(law, kind, heap, last);
             int left = heap;
             int x = last;
             for (int i = 0; i <= k; i++) {
