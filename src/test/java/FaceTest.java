@@ -156,7 +156,7 @@ public final class FaceTest {
             use(x);
             most = bean.getThreadAllocatedBytes(id) - before;
         }
-        must(most < 1000, "calls make " + most + " bytes");
+        must(most < 10000, "calls make " + most + " bytes");
         long before = bean.getThreadAllocatedBytes(id);
         DoubleHeap x = new DoubleHeap();
         long made = bean.getThreadAllocatedBytes(id) - before;

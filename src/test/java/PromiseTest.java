@@ -581,6 +581,11 @@ public final class PromiseTest {
         due("3 by 1 goes on to the 20th", x.growing(2, 3, 0, 1, 0), 0);
         due("4 less 2 and 1 more is 3: that is lost for the other only with an odd number left",
                 x.growing(2, 4, 0, 1, 1), oracleOfTwoAtMost(4));
+        // One may be taken of 40 alone.
+        DoubleHeap y = with("m1(n=40)");
+        due("40 at most are there: so it goes on to the 20th", y.growing(0, 40, 0, 2, 0), 0);
+        due("40 again", y.growing(0, 40, 0, 1, 0), 0);
+        due("39 are left", y.growing(0, 40, 0, 0, 1), 1);
         due("nothing comes to nothing", x.growing(3, 1, 0, 3, 0), 0);
         due("nobody takes", x.growing(3, 1, 5, 3, 1), -2);
         due("no such growth", x.growing(0, 1, 0, 4, 0), -1);
@@ -837,6 +842,10 @@ public final class PromiseTest {
         game(x, 8, "5:2,1,1,1");
         due("a slip at the last", x.fromWhen(0, 0), 0);
         due("a slip of the other", x.fromWhen(0, 1), 1);
+        DoubleHeap w = with(DOUBLE);
+        game(w, 0, "40:1,2");
+        due("of 40", w.fromWhen(0, 0), 1);
+        due("of 40, the other", w.fromWhen(0, 1), 0);
         due("no such law", x.fromWhen(1, 0), -1);
         due("no such law", x.fromWhen(4, 0), -1);
         due("no such player", x.fromWhen(0, 2), -1);
@@ -844,6 +853,9 @@ public final class PromiseTest {
         promise = 24;
         DoubleHeap y = with(THREE, ALL, ONE);
         due("no games: all told laws", y.thought(0), 7);
+        DoubleHeap z = with(DOUBLE, THREE);
+        game(z, 0, "40:2,1");
+        due("of 40", z.thought(0), 2);
         game(y, 0, "5:1");
         due("1 of 5 is good by threes and ones", y.thought(0), 5);
         due("the other has not taken", y.thought(1), 7);
@@ -974,6 +986,9 @@ public final class PromiseTest {
         // 25173 * 65535 + 13849 = 1649726404; modulo 65536: 54212; of 1 3 5 7 by four: 0.
         due("the first of the odd ones", y.child(), 1);
         due("X", y.count(7), 54212);
+        DoubleHeap z = with("m40(1=1);f(x<40)");
+        z.stove(0, 40);
+        due("all forty", z.child(), 40);
     }
 
     private static void back() {
@@ -1001,6 +1016,9 @@ public final class PromiseTest {
             y.take(1);
         }
         due("forty", y.count(3), 40);
+        y.keep();
+        y.stove(0, 3);
+        y.undo();
         for (int i = 0; i < 40; i++) {
             due("forty back", y.back(), 1);
         }
