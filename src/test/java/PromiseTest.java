@@ -1,75 +1,5 @@
 /** For each promise of the document: ordinary inputs, the edges that it names, wrong inputs. */
-public final class PromiseTest {
-    /** At most twice what the other took; at first any number but all. */
-    private static final String DOUBLE = "mn-1(t=0);mt*2(1=1)";
-    private static final String ONE = "m1(1=1)";
-    private static final String THREE = "m3(1=1)";
-    private static final String ALL = "mn(1=1)";
-    private static final String ODD = "m40(1=1);f(x%2=0)";
-    private static final String NO_TAKE = "m5(1=0)";
-    private static final long EVEN_HEAPS = 1466015503700L;
-
-    private static int wrong = 0;
-    private static int promise = 0;
-    private static int calls = 0;
-
-    private static void due(String what, long got, long want) {
-        calls++;
-        if (got != want) {
-            wrong++;
-            System.out.println("promise " + promise + ": " + what + " answered " + got + ", due is " + want);
-        }
-    }
-
-    private static void due(String what, boolean got, boolean want) {
-        due(what, got ? 1 : 0, want ? 1 : 0);
-    }
-
-    private static void feed(DoubleHeap x, int... bytes) {
-        for (int i = 0; i < bytes.length; i += 20) {
-            int[] v = new int[5];
-            for (int k = 0; k < 20; k++) {
-                v[k / 4] = v[k / 4] << 8 | (i + k < bytes.length ? bytes[i + k] : 0);
-            }
-            x.feed(v[0], v[1], v[2], v[3], v[4]);
-        }
-    }
-
-    private static int law(DoubleHeap x, int l, String text) {
-        feed(x, text.chars().toArray());
-        return x.law(l, text.length());
-    }
-
-    private static int game(DoubleHeap x, int g, String text) {
-        feed(x, text.chars().toArray());
-        return x.game(g, text.length());
-    }
-
-    /** An object with laws 0 on told. */
-    private static DoubleHeap with(String... laws) {
-        DoubleHeap x = new DoubleHeap();
-        for (int l = 0; l < laws.length; l++) {
-            int answer = law(x, l, laws[l]);
-            if (answer < 1) {
-                due("law " + laws[l], answer, 1);
-            }
-        }
-        return x;
-    }
-
-    private static void lawText(String text, int want) {
-        due("law " + text, law(new DoubleHeap(), 0, text), want);
-    }
-
-    private static void gameText(String text, int want) {
-        due("game " + text, game(new DoubleHeap(), 0, text), want);
-    }
-
-    /** How many may be taken of 40 by a law, at most, with nothing forbidden. */
-    private static void most(String text, int want) {
-        due("most by " + text, with(text).state(0, 40, 0, 4), want);
-    }
-
+public final class PromiseTest extends Bench {
     public static void main(String[] args) {
         newObject();
         feeds();
@@ -102,14 +32,11 @@ public final class PromiseTest {
         seedKeepUndo();
         check();
         count();
-        System.out.println(calls + " answers, wrong ones: " + wrong);
-        if (wrong != 0) {
-            System.exit(1);
-        }
+        end();
     }
 
     private static void newObject() {
-        promise = 1;
+        at("promise 1");
         DoubleHeap x = new DoubleHeap();
         for (int what = 0; what < 7; what++) {
             due("count " + what, x.count(what), 0);
@@ -128,7 +55,7 @@ public final class PromiseTest {
     }
 
     private static void feeds() {
-        promise = 2;
+        at("promise 2");
         DoubleHeap x = new DoubleHeap();
         for (int i = 1; i <= 13; i++) {
             due("feed " + i, x.feed(0, 0, 0, 0, 0), 20 * i);
@@ -143,7 +70,7 @@ public final class PromiseTest {
     }
 
     private static void lawFaults() {
-        promise = 3;
+        at("promise 3");
         lawText("f(1=1)", 1);
         lawText("m0(0=0);f(x=1);m1(1>0)", 3);
         lawText("m1(1=1);", -1008);
@@ -203,7 +130,7 @@ public final class PromiseTest {
     }
 
     private static void lawMeaning() {
-        promise = 3;
+        at("promise 3");
         most("m41(1=1)", 40);
         most("m0-1(1=1)", 0);
         most("m5(n<40);m6(n>40);m7(n=40);m8(1=1)", 7);
@@ -256,7 +183,7 @@ public final class PromiseTest {
     }
 
     private static void lawStays() {
-        promise = 3;
+        at("promise 3");
         DoubleHeap x = with(ONE, THREE);
         feed(x, new int[20]);
         due("no such law", x.law(4, 1), -1);
@@ -290,7 +217,7 @@ public final class PromiseTest {
     }
 
     private static void games() {
-        promise = 4;
+        at("promise 4");
         gameText("5:", 0);
         gameText("40:", 0);
         gameText("00:", 0);
@@ -350,7 +277,7 @@ public final class PromiseTest {
     }
 
     private static void states() {
-        promise = 5;
+        at("promise 5");
         DoubleHeap x = with(DOUBLE, THREE, NO_TAKE, ODD);
         due("lost at 8", x.state(0, 8, 0, 0), 0);
         due("won at 9", x.state(0, 9, 0, 0), 1);
@@ -387,7 +314,7 @@ public final class PromiseTest {
     }
 
     private static void shy() {
-        promise = 5;
+        at("promise 5");
         // By law 0 all odd takes from 5 are good: 1, 3, 5.
         DoubleHeap x = with(ODD);
         due("alone: the least", x.state(0, 5, 0, 6), 1);
@@ -406,7 +333,7 @@ public final class PromiseTest {
     }
 
     private static void takes() {
-        promise = 6;
+        at("promise 6");
         DoubleHeap x = with(ALL, THREE, NO_TAKE, ODD);
         due("all", x.takes(0, 40, 0, 0), (1L << 41) - 2);
         due("all", x.takes(0, 3, 40, 0), 0b1110);
@@ -431,7 +358,7 @@ public final class PromiseTest {
     }
 
     private static void lostNumbers() {
-        promise = 7;
+        at("promise 7");
         DoubleHeap x = with(DOUBLE, ONE, NO_TAKE, ALL);
         due("double", x.lost(0), 1L << 1 | 1L << 2 | 1L << 3 | 1L << 5 | 1L << 8 | 1L << 13 | 1L << 21 | 1L << 34);
         due("ones: the even ones", x.lost(1), EVEN_HEAPS);
@@ -439,7 +366,7 @@ public final class PromiseTest {
         due("no heap", x.lost(3), 0);
         due("no such law", x.lost(4), -1);
         due("no such law", x.lost(-1), -1);
-        promise = 8;
+        at("promise 8");
         due("the first", x.lostAt(1, 0), 2);
         due("the last", x.lostAt(1, 19), 40);
         due("not so many", x.lostAt(1, 20), -2);
@@ -452,7 +379,7 @@ public final class PromiseTest {
     }
 
     private static void endsAndLongest() {
-        promise = 9;
+        at("promise 9");
         DoubleHeap x = with(THREE, ODD, NO_TAKE, "m3(1=1);f(n-x=2)");
         due("ends of 10", x.ends(0, 10, 0, 100), 4);
         due("least row 1 3 3 3", x.ends(0, 10, 0, 0), 1);
@@ -475,7 +402,7 @@ public final class PromiseTest {
         DoubleHeap y = with("m2(1=1);f(n-x=4&x=1);f(n=4)");
         due("over with some left: 6 to 4", y.ends(0, 6, 0, 100), 1);
         due("over with some left: 6 to 4", y.ends(0, 6, 0, 0), 2);
-        promise = 20;
+        at("promise 20");
         due("longest: ones", x.longest(0, 40, 0, 100), 40);
         due("longest: ones", x.longest(0, 40, 0, 39), 1);
         due("longest: nothing at all", x.longest(2, 40, 0, 100), 0);
@@ -503,7 +430,7 @@ public final class PromiseTest {
     }
 
     private static void sums() {
-        promise = 10;
+        at("promise 10");
         DoubleHeap x = with(ONE, NO_TAKE, ALL, DOUBLE);
         // Even numbers, none beside each other: 12 = 12, 10+2, 8+4 (6+... 6 is beside 4 and 8).
         due("ways to 12", x.sums(0, 12, 0), 3);
@@ -519,7 +446,7 @@ public final class PromiseTest {
         due("no such what", x.sums(0, 1, 2), -1);
         due("no such what", x.sums(0, 1, -1), -1);
         due("no such law", x.sums(4, 1, 0), -1);
-        promise = 11;
+        at("promise 11");
         due("12 itself", x.sum(0, 12), 1L << 12);
         due("nothing", x.sum(0, 0), 0);
         due("none", x.sum(0, 13), -2);
@@ -534,7 +461,7 @@ public final class PromiseTest {
     }
 
     private static void twoHeaps() {
-        promise = 12;
+        at("promise 12");
         DoubleHeap x = with(ALL, THREE, "m2(t=0);mt(1=1)", ONE);
         due("like heaps are lost", x.two(0, 20, 20, 0, 0), 0);
         due("like heaps are lost", x.two(0, 20, 20, 40, 1), -2);
@@ -565,7 +492,7 @@ public final class PromiseTest {
     }
 
     private static void growing() {
-        promise = 13;
+        at("promise 13");
         DoubleHeap x = with(ONE, ALL, "m2(1=1)", "m1(n>1)");
         due("one is taken", x.growing(0, 1, 0, 3, 0), 1);
         // 2 by one each, growing by one: 2 stays 2 for ever; who takes the 20th has won.
@@ -620,7 +547,7 @@ public final class PromiseTest {
     }
 
     private static void each() {
-        promise = 14;
+        at("promise 14");
         DoubleHeap x = with(ONE, "m2(1=1)", NO_TAKE, "m3(1=1);f(x=1)");
         due("against who never takes", x.each(0, 2, 9, 0, 0), 1);
         due("who never takes", x.each(2, 0, 9, 0, 0), 0);
@@ -646,7 +573,7 @@ public final class PromiseTest {
     }
 
     private static void ones() {
-        promise = 15;
+        at("promise 15");
         DoubleHeap x = with(ONE, "m2(1=1)", "m9(1=1);f(x=1&n=5)", "m1(t=0);m3(1=1);f(x<3)");
         due("odd", x.ones(0, 39, 0), 1);
         due("even", x.ones(0, 40, 0), 0);
@@ -669,7 +596,7 @@ public final class PromiseTest {
     }
 
     private static void passes() {
-        promise = 16;
+        at("promise 16");
         DoubleHeap x = with(ONE, THREE, NO_TAKE);
         due("nothing there, a pass", x.passes(0, 0, 0, 1, 0, 0), 1);
         due("nothing there, a pass", x.passes(0, 0, 0, 1, 0, 1), 1);
@@ -698,7 +625,7 @@ public final class PromiseTest {
     }
 
     private static void hope() {
-        promise = 17;
+        at("promise 17");
         DoubleHeap x = with(THREE, ALL, NO_TAKE, ONE);
         due("she takes all", x.hope(1, 40, 0, 0, 0), 1000000);
         due("all is her take", x.hope(1, 40, 0, 0, 1), 40);
@@ -728,7 +655,7 @@ public final class PromiseTest {
     }
 
     private static void pattern() {
-        promise = 18;
+        at("promise 18");
         DoubleHeap x = with(DOUBLE, "mn-1(t=0);mt(1=1)", NO_TAKE, "mn-1(t=0);mt*3(1=1)");
         due("double: one and two ahead", x.pattern(0, 0), 1);
         // As much as was taken: 1 2 4 8 16 32.
@@ -755,7 +682,7 @@ public final class PromiseTest {
     }
 
     private static void simple() {
-        promise = 19;
+        at("promise 19");
         DoubleHeap x = with(DOUBLE, "mn-1(t=0);m4*t+4(1=1)", ALL, NO_TAKE);
         due("double", x.simple(0, 1), 20);
         due("four times and four more", x.simple(1, 1) >= 0 ? 1 : 0, 1);
@@ -778,7 +705,7 @@ public final class PromiseTest {
     }
 
     private static void unlike() {
-        promise = 21;
+        at("promise 21");
         DoubleHeap x = with(THREE, "m3(t<40);m2(1=1)", "m3(1=1);f(x=3&t=40&n=7)");
         due("like itself", x.unlike(0, 0, 0), 0);
         due("like itself", x.unlike(0, 0, 1), 0);
@@ -798,7 +725,7 @@ public final class PromiseTest {
     }
 
     private static void judged() {
-        promise = 22;
+        at("promise 22");
         DoubleHeap x = with(THREE);
         // 12: 3 left 9: 1 (good), left 8: 4 (none), left 4: 2 (none good), left 2: 2 (good).
         due("told", game(x, 0, "12:3,1,4,2,2"), 5);
@@ -827,7 +754,7 @@ public final class PromiseTest {
     }
 
     private static void fromWhenAndThought() {
-        promise = 23;
+        at("promise 23");
         DoubleHeap x = with(THREE);
         due("no games", x.fromWhen(0, 0), 0);
         game(x, 4, "7:3,1,3");
@@ -850,7 +777,7 @@ public final class PromiseTest {
         due("no such law", x.fromWhen(4, 0), -1);
         due("no such player", x.fromWhen(0, 2), -1);
         due("no such player", x.fromWhen(0, -1), -1);
-        promise = 24;
+        at("promise 24");
         DoubleHeap y = with(THREE, ALL, ONE);
         due("no games: all told laws", y.thought(0), 7);
         DoubleHeap z = with(DOUBLE, THREE);
@@ -870,7 +797,7 @@ public final class PromiseTest {
     }
 
     private static void chance() {
-        promise = 25;
+        at("promise 25");
         DoubleHeap x = with(THREE, ODD, NO_TAKE, "mn(t=0);m40(1=1);f(n-x>0&[n-x]%2=0)");
         game(x, 0, "7:3,1,3");
         due("above", x.chance(0, 0, 0, 0), 1);
@@ -906,16 +833,8 @@ public final class PromiseTest {
         due("20 of 20, 19 of 19 and so on", y.chance(2, 2, 0, 1), 1);
     }
 
-    private static String ones(int many) {
-        StringBuilder text = new StringBuilder("1");
-        for (int i = 1; i < many; i++) {
-            text.append(",1");
-        }
-        return text.toString();
-    }
-
     private static void stove() {
-        promise = 26;
+        at("promise 26");
         DoubleHeap x = with(DOUBLE, ONE);
         due("stove", x.stove(1, 40), true);
         due("its heap", x.count(0), 40);
@@ -933,7 +852,7 @@ public final class PromiseTest {
         due("last is 0", x.count(1), 0);
         due("nothing to take back", x.count(3), 0);
         due("nothing to take back", x.back(), -2);
-        promise = 27;
+        at("promise 27");
         due("not all at first", x.take(5), -1);
         due("two of them", x.take(2), 3);
         due("last", x.count(1), 2);
@@ -955,7 +874,7 @@ public final class PromiseTest {
     }
 
     private static void sheAndChild() {
-        promise = 28;
+        at("promise 28");
         DoubleHeap x = with(THREE, NO_TAKE);
         due("nothing there", x.she(), -2);
         x.stove(0, 11);
@@ -967,7 +886,7 @@ public final class PromiseTest {
         due("no take", x.she(), -2);
         due("nothing is changed", x.count(3), 0);
         due("law 0 is not told", new DoubleHeap().she(), -1);
-        promise = 29;
+        at("promise 29");
         due("law 0 is not told", new DoubleHeap().child(), -1);
         due("no take", x.child(), -2);
         due("no draw", x.count(7), 1);
@@ -992,7 +911,7 @@ public final class PromiseTest {
     }
 
     private static void back() {
-        promise = 30;
+        at("promise 30");
         DoubleHeap x = with(THREE);
         x.stove(0, 10);
         x.take(3);
@@ -1026,7 +945,7 @@ public final class PromiseTest {
     }
 
     private static void against() {
-        promise = 31;
+        at("promise 31");
         DoubleHeap x = with(ONE, THREE, NO_TAKE, DOUBLE);
         due("ones: odd is hers if she begins", x.against(0, 39, 0, 0), 1);
         due("ones: so many takes", x.against(0, 39, 0, 1), 39);
@@ -1046,7 +965,7 @@ public final class PromiseTest {
         due("no such one", x.against(0, 1, 2, 0), -1);
         due("no such what", x.against(0, 1, 0, 2), -1);
         due("no such law", x.against(4, 1, 0, 0), -1);
-        promise = 32;
+        at("promise 32");
         due("thirty evenings", x.evenings(30, 0, 39, 0), 30);
         due("thirty evenings", x.evenings(30, 0, 39, 1), 0);
         due("won by who knows", x.evenings(30, 1, 7, 0), 30);
@@ -1057,8 +976,8 @@ public final class PromiseTest {
         due("no such law", x.evenings(1, 4, 1, 0), -1);
         due("X is as it was", x.count(7), 1);
         // Two of 2, the child begins: it takes 1 by an even X, 2 by an odd one; draws from 1 on:
-        // 39022, 61087, 20196, 45005, 3714, 52067, 7016, 5857.
-        int[] draws = {39022, 61087, 20196, 45005, 3714, 52067, 7016, 5857};
+        // 39022, 61087, 20196, 45005, 3882, 21259, 65216, 19417.
+        int[] draws = {39022, 61087, 20196, 45005, 3882, 21259, 65216, 19417};
         int won = 0;
         for (int n = 1; n <= draws.length; n++) {
             won += draws[n - 1] % 2 == 0 ? 1 : 0;
@@ -1067,7 +986,7 @@ public final class PromiseTest {
     }
 
     private static void seedKeepUndo() {
-        promise = 33;
+        at("promise 33");
         DoubleHeap x = with(THREE);
         due("seed", x.seed(0), true);
         due("X", x.count(7), 0);
@@ -1076,7 +995,7 @@ public final class PromiseTest {
         due("too great", x.seed(65536), false);
         due("too small", x.seed(-1), false);
         due("X", x.count(7), 65535);
-        promise = 34;
+        at("promise 34");
         DoubleHeap y = with(THREE, ONE);
         due("none was kept", y.undo(), false);
         due("a new one", y.keep(), 0);
@@ -1088,7 +1007,7 @@ public final class PromiseTest {
         y.stove(1, 5);
         y.take(1);
         y.seed(77);
-        promise = 35;
+        at("promise 35");
         due("undone", y.undo(), true);
         due("heap", y.count(0), 9);
         due("last", y.count(1), 1);
@@ -1110,7 +1029,7 @@ public final class PromiseTest {
     }
 
     private static void check() {
-        promise = 36;
+        at("promise 36");
         DoubleHeap x = with(DOUBLE, NO_TAKE);
         feed(x, 1, 2, 3, 5, 8, 13, 21, 34);
         due("right", x.check(0, 8), -1);
@@ -1149,7 +1068,7 @@ public final class PromiseTest {
     }
 
     private static void count() {
-        promise = 37;
+        at("promise 37");
         DoubleHeap x = with(DOUBLE, ONE);
         law(x, 3, "f(1=1);f(1=1);f(1=1)");
         game(x, 0, "9:1,2,3");
