@@ -35,7 +35,7 @@ abstract class Bench {
     }
 
     private static String section(String part) {
-        int start = read().indexOf("\n## " + part);
+        int start = read().indexOf("\n## " + part + (part.startsWith("Promise") ? ":" : "\n"));
         int stop = read().indexOf("\n## ", start + 1);
         return start < 0 ? "" : read().substring(start, stop < 0 ? read().length() : stop);
     }

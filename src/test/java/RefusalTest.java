@@ -60,62 +60,74 @@ public final class RefusalTest extends Bench {
 
     private static void readers() {
         // The tape has 200 bytes.
-        sweep("Promise 3", "law", -1, (x, a) -> x.law(a[0], a[1]), ANY_LAW, between(1, 160));
-        sweep("Promise 4", "game", -1, (x, a) -> x.game(a[0], a[1]), ANY_GAME, between(1, 130));
-        sweep("Promise 36", "check", -2, (x, a) -> x.check(a[0], a[1]), LAW, to(40));
-        sweep("Promise 37", "count", -1, (x, a) -> x.count(a[0]),
+        sweep("Promise 3", "NONE: no such ones, it has not so many (the tape stays)",
+                "law", -1, (x, a) -> x.law(a[0], a[1]), ANY_LAW, between(1, 160));
+        sweep("Promise 4", "NONE: as above", "game", -1, (x, a) -> x.game(a[0], a[1]), ANY_GAME, between(1, 130));
+        sweep("Promise 36", "-2: no such ones, it has not so many (the tape stays)",
+                "check", -2, (x, a) -> x.check(a[0], a[1]), LAW, to(40));
+        sweep("Promise 37", "NONE for others", "count", -1, (x, a) -> x.count(a[0]),
                 new Argument(new int[] {0, 7, 10, 11, 13, 20, 28}, -1, 8, 9, 12, 14, 19, 21, 27, 29, LEAST, MOST));
     }
 
     private static void states() {
-        sweep("Promise 5", "state", -1, (x, a) -> x.state(a[0], a[1], a[2], a[3]), LAW, HEAP, LAST, to(6));
-        sweep("Promise 6", "takes", -1, (x, a) -> x.takes(a[0], a[1], a[2], a[3]), LAW, HEAP, LAST, to(3));
-        sweep("Promise 7", "lost", -1, (x, a) -> x.lost(a[0]), LAW);
-        sweep("Promise 8", "lostAt", -1, (x, a) -> x.lostAt(a[0], a[1]), LAW,
+        sweep("Promise 5", "NONE: no such ones",
+                "state", -1, (x, a) -> x.state(a[0], a[1], a[2], a[3]), LAW, HEAP, LAST, to(6));
+        sweep("Promise 6", "-1: no such ones",
+                "takes", -1, (x, a) -> x.takes(a[0], a[1], a[2], a[3]), LAW, HEAP, LAST, to(3));
+        sweep("Promise 7", "-1: no such one", "lost", -1, (x, a) -> x.lost(a[0]), LAW);
+        sweep("Promise 8", "NONE: no such ones", "lostAt", -1, (x, a) -> x.lostAt(a[0], a[1]), LAW,
                 new Argument(new int[] {0, 39, 40, MOST}, -1, LEAST));
-        sweep("Promise 9", "ends", -1, (x, a) -> x.ends(a[0], a[1], a[2], a[3]), LAW, HEAP, LAST, ROW);
-        sweep("Promise 20", "longest", -1, (x, a) -> x.longest(a[0], a[1], a[2], a[3]), LAW, HEAP, LAST, ROW);
-        sweep("Promise 10", "sums", -1, (x, a) -> x.sums(a[0], a[1], a[2]), LAW, to(200), ONE_OF_TWO);
-        sweep("Promise 11", "sum", -1, (x, a) -> x.sum(a[0], a[1]), LAW, to(200));
-        sweep("Promise 18", "pattern", -1, (x, a) -> x.pattern(a[0], a[1]), LAW, to(2));
-        sweep("Promise 19", "simple", -1, (x, a) -> x.simple(a[0], a[1]), LAW, ONE_OF_TWO);
-        sweep("Promise 21", "unlike", -1, (x, a) -> x.unlike(a[0], a[1], a[2]), LAW, LAW, to(2));
+        sweep("Promise 9", "NONE: no such ones",
+                "ends", -1, (x, a) -> x.ends(a[0], a[1], a[2], a[3]), LAW, HEAP, LAST, ROW);
+        sweep("Promise 20", "NONE: no such ones",
+                "longest", -1, (x, a) -> x.longest(a[0], a[1], a[2], a[3]), LAW, HEAP, LAST, ROW);
+        sweep("Promise 10", "NONE: no such ones",
+                "sums", -1, (x, a) -> x.sums(a[0], a[1], a[2]), LAW, to(200), ONE_OF_TWO);
+        sweep("Promise 11", "-1: no such ones", "sum", -1, (x, a) -> x.sum(a[0], a[1]), LAW, to(200));
+        sweep("Promise 18", "NONE: no such ones", "pattern", -1, (x, a) -> x.pattern(a[0], a[1]), LAW, to(2));
+        sweep("Promise 19", "NONE: no such ones", "simple", -1, (x, a) -> x.simple(a[0], a[1]), LAW, ONE_OF_TWO);
+        sweep("Promise 21", "NONE: no such ones", "unlike", -1, (x, a) -> x.unlike(a[0], a[1], a[2]), LAW, LAW, to(2));
     }
 
     private static void others() {
-        sweep("Promise 12", "two", -1, (x, a) -> x.two(a[0], a[1], a[2], a[3], a[4]),
+        sweep("Promise 12", "NONE: no such ones", "two", -1, (x, a) -> x.two(a[0], a[1], a[2], a[3], a[4]),
                 LAW, to(20), to(20), LAST, ONE_OF_TWO);
-        sweep("Promise 13", "growing", -1, (x, a) -> x.growing(a[0], a[1], a[2], a[3], a[4]),
+        sweep("Promise 13", "NONE: no such ones", "growing", -1, (x, a) -> x.growing(a[0], a[1], a[2], a[3], a[4]),
                 LAW, HEAP, LAST, to(3), ONE_OF_TWO);
-        sweep("Promise 14", "each", -1, (x, a) -> x.each(a[0], a[1], a[2], a[3], a[4]),
+        sweep("Promise 14", "NONE: no such ones", "each", -1, (x, a) -> x.each(a[0], a[1], a[2], a[3], a[4]),
                 LAW, LAW, HEAP, LAST, ONE_OF_TWO);
-        sweep("Promise 15", "ones", -1, (x, a) -> x.ones(a[0], a[1], a[2]), LAW, HEAP, LAST);
-        sweep("Promise 16", "passes", -1, (x, a) -> x.passes(a[0], a[1], a[2], a[3], a[4], a[5]),
+        sweep("Promise 15", "NONE: no such ones", "ones", -1, (x, a) -> x.ones(a[0], a[1], a[2]), LAW, HEAP, LAST);
+        sweep("Promise 16", "NONE: no such ones", "passes", -1, (x, a) -> x.passes(a[0], a[1], a[2], a[3], a[4], a[5]),
                 LAW, HEAP, LAST, ONE_OF_TWO, ONE_OF_TWO, ONE_OF_TWO);
-        sweep("Promise 17", "hope", -1, (x, a) -> x.hope(a[0], a[1], a[2], a[3], a[4]),
+        sweep("Promise 17", "NONE: no such ones", "hope", -1, (x, a) -> x.hope(a[0], a[1], a[2], a[3], a[4]),
                 LAW, HEAP, LAST, ONE_OF_TWO, ONE_OF_TWO);
     }
 
     private static void played() {
-        sweep("Promise 22", "judged", -1, (x, a) -> x.judged(a[0], a[1], a[2], a[3]), GAME, LAW, ONE_OF_TWO, to(3));
-        sweep("Promise 23", "fromWhen", -1, (x, a) -> x.fromWhen(a[0], a[1]), LAW, ONE_OF_TWO);
-        sweep("Promise 24", "thought", -1, (x, a) -> x.thought(a[0]), ONE_OF_TWO);
-        sweep("Promise 25", "chance", -1, (x, a) -> x.chance(a[0], a[1], a[2], a[3]), GAME, LAW, ONE_OF_TWO, ONE_OF_TWO);
+        sweep("Promise 22", "NONE: no such ones",
+                "judged", -1, (x, a) -> x.judged(a[0], a[1], a[2], a[3]), GAME, LAW, ONE_OF_TWO, to(3));
+        sweep("Promise 23", "NONE: no such ones", "fromWhen", -1, (x, a) -> x.fromWhen(a[0], a[1]), LAW, ONE_OF_TWO);
+        sweep("Promise 24", "NONE: no such one", "thought", -1, (x, a) -> x.thought(a[0]), ONE_OF_TWO);
+        sweep("Promise 25", "-1: no such ones",
+                "chance", -1, (x, a) -> x.chance(a[0], a[1], a[2], a[3]), GAME, LAW, ONE_OF_TWO, ONE_OF_TWO);
     }
 
     private static void stove() {
-        sweep("Promise 26", "stove", 0, (x, a) -> x.stove(a[0], a[1]) ? 1 : 0, LAW, HEAP);
+        sweep("Promise 26", "false: no such ones", "stove", 0, (x, a) -> x.stove(a[0], a[1]) ? 1 : 0, LAW, HEAP);
         // There are 34, 2 were taken last: twice of it at most.
-        sweep("Promise 27", "take", -1, (x, a) -> x.take(a[0]), new Argument(new int[] {1, 4}, -1, 0, 5, 34, 65, 66, LEAST, MOST));
-        sweep("Promise 31", "against", -1, (x, a) -> x.against(a[0], a[1], a[2], a[3]), LAW, HEAP, ONE_OF_TWO, ONE_OF_TWO);
-        sweep("Promise 32", "evenings", -1, (x, a) -> x.evenings(a[0], a[1], a[2], a[3]),
+        sweep("Promise 27", "NONE: that is no TAKE",
+                "take", -1, (x, a) -> x.take(a[0]), new Argument(new int[] {1, 4}, -1, 0, 5, 34, 65, 66, LEAST, MOST));
+        sweep("Promise 31", "NONE: no such ones",
+                "against", -1, (x, a) -> x.against(a[0], a[1], a[2], a[3]), LAW, HEAP, ONE_OF_TWO, ONE_OF_TWO);
+        sweep("Promise 32", "NONE: no such ones", "evenings", -1, (x, a) -> x.evenings(a[0], a[1], a[2], a[3]),
                 between(1, 30), LAW, HEAP, ONE_OF_TWO);
-        sweep("Promise 33", "seed", 0, (x, a) -> x.seed(a[0]) ? 1 : 0, to(65535));
+        sweep("Promise 33", "false: no such number", "seed", 0, (x, a) -> x.seed(a[0]) ? 1 : 0, to(65535));
     }
 
     /** In each argument what is inside, then what is outside, with the others inside. */
-    private static void sweep(String part, String name, long refused, Call call, Argument... arguments) {
-        at(part);
+    private static void sweep(String part, String words, String name, long refused, Call call,
+            Argument... arguments) {
+        sentence(part, words);
         int[] a = new int[arguments.length];
         for (int ends = 0; ends < 2; ends++) {
             for (int i = 0; i < a.length; i++) {
