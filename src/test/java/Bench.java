@@ -28,10 +28,15 @@ abstract class Bench {
         place = where;
     }
 
-    /** What comes now tests a sentence of a part of the document, which must stand there word for word. */
+    /**
+     * What comes now tests a sentence of a part of the document, which must stand there word for
+     * word (this is not asked where the document is not at hand).
+     */
     static void sentence(String part, String words) {
         at(part + ", \"" + words + "\"");
-        due("the document has the sentence", plain(section(part)).contains(plain(words)), true);
+        if (Files.exists(DOCUMENT)) {
+            due("the document has the sentence", plain(section(part)).contains(plain(words)), true);
+        }
     }
 
     private static String section(String part) {
@@ -49,7 +54,7 @@ abstract class Bench {
             try {
                 document = Files.readString(DOCUMENT, StandardCharsets.UTF_8);
             } catch (IOException e) {
-                document = "no document at " + DOCUMENT;
+                document = "the document can't be read: " + e;
             }
         }
         return document;

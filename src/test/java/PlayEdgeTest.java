@@ -701,9 +701,10 @@ public final class PlayEdgeTest extends Bench {
 
     private static void checkBehindLast() {
         sentence("Promise 36", "behind the last LOST NUMBER 0");
-        DoubleHeap x = with(losingAt(7), ALL);
+        DoubleHeap x = with(losingAt(7), ALL, NO_TAKE);
         feed(x, 7);
         due("the only one", x.check(0, 1), -1);
+        due("by another law there are forty", x.lostAt(2, 39), 40);
         feed(x, 7, 0, 0);
         due("0 behind it", x.check(0, 3), -1);
         feed(x, 7, 0, 1);
@@ -714,6 +715,9 @@ public final class PlayEdgeTest extends Bench {
         due("0 in place of it", x.check(0, 1), 0);
         feed(x, new int[40]);
         due("forty times 0 without lost numbers", x.check(1, 40), -1);
+        due("by another law there are forty", x.lostAt(2, 0), 1);
+        feed(x, 0);
+        due("0 without lost numbers", x.check(1, 1), -1);
         int[] last = new int[40];
         last[39] = 255;
         feed(x, last);

@@ -176,6 +176,19 @@ public final class TextEdgeTest extends Bench {
         due("in place of the one before", x.count(10), 2);
         due("in place of that one, the first again", law(x, 0, ONE), 1);
         due("in place of that one, the first again", x.lost(0), EVEN_HEAPS);
+        // None of the rules of the one before is left.
+        law(x, 1, "m3(1=1);m5(1=1);f(x=1);f(x=2);m5(1=1);f(x=1);f(x=2);m5(1=1)");
+        due("eight rules", x.takes(1, 9, 0, 0), bits(3));
+        law(x, 1, "m3(1=1);f(1=0)");
+        due("then two", x.takes(1, 9, 0, 0), bits(1, 2, 3));
+        law(x, 1, "f(1=0)");
+        due("then one, not of m", x.takes(1, 9, 0, 0), 0);
+        law(x, 1, "f(1=0);f(1=1)");
+        law(x, 1, "m3(1=1&1=1&1=1)");
+        due("a second one that forbade does so no more", x.takes(1, 9, 0, 0), bits(1, 2, 3));
+        law(x, 1, "f(1=0);m9(1=1)");
+        law(x, 1, "f(x=9&7=7&1=1|n=99)");
+        due("a second one of m lets no more", x.takes(1, 9, 0, 0), 0);
         // The longest text, over and over: each time there is room for all of it.
         for (int i = 0; i < 20; i++) {
             due("the longest text again", law(x, i % 4, longLaw(160)), 1);
