@@ -4,6 +4,8 @@
  */
 public final class StateEdgeTest extends Bench {
     private static final String TERMS = "Terms";
+    /** Of 5 one may take 1, and it is over, or 2, and it goes on. */
+    private static final String LEAST_IS_SOONEST = "m2(n=5);m0(n=4);m1(n=3);m2(n=2);m1(n=1)";
     /** Of each against another: 1 won, 2 lost, 0 not known yet. */
     private static final int[][][] KNOWN = new int[2][41][41];
 
@@ -230,6 +232,10 @@ public final class StateEdgeTest extends Bench {
         due("4 is won: 1, and 3 is lost", y.state(0, 4, 0, 5), 3);
         due("5 is won at once", y.state(0, 5, 0, 5), 1);
         due("6 is lost: by 2 it lasts longer", y.state(0, 6, 0, 5), 4);
+        // Of 5 both 1 and 2 are good: behind 1 it is over, behind 2 it goes on with 1 and 2.
+        DoubleHeap z = with(LEAST_IS_SOONEST);
+        due("two good ones", z.takes(0, 5, 0, 1), bits(1, 2));
+        due("the least good one ends it sooner", z.state(0, 5, 0, 5), 1);
     }
 
     private static void endsRows() {
@@ -257,6 +263,10 @@ public final class StateEdgeTest extends Bench {
         due("9 by threes is lost in 3 for who begins or not", x.ends(1, 9, 0, 100), 3);
         due("over with some left", with("m2(n>5)").ends(0, 7, 0, 100), 1);
         due("over with some left", with("m2(n>5)").ends(0, 7, 0, 0), 2);
+        DoubleHeap y = with(LEAST_IS_SOONEST);
+        due("over behind 1, not behind 2", y.ends(0, 5, 0, 100), 1);
+        due("over behind 1, not behind 2", y.ends(0, 5, 0, 0), 1);
+        due("2 1 1 1 lasts longest", y.longest(0, 5, 0, 100), 4);
     }
 
     private static void row(String what, int[] got, int... want) {
